@@ -115,11 +115,11 @@ public final class PlyHouse {
         boolean sound = gradeReader.readLines(tape);
         tape.keep(0);
         latestFault = gradeReader.fault;
-        latestPlace = gradeReader.faultPlace;
+        latestPlace = sound ? NONE : gradeReader.placeReached();
         if (!sound) {
             return NONE;
         }
-        grading.copyOf(gradeReader.draft);
+        grading.copyFrom(gradeReader.draft);
         clipping.forget();
         return grading.lines;
     }
@@ -400,6 +400,8 @@ public final class PlyHouse {
     private static final class Grades {
         private static final int MOST_LINES = 8;
         private static final int MOST_TERMS = 60;
+        private static final int WIDEST = 100;
+        private static final int MOST_WORTH = 9999;
         // The terms, the 59 signs and words at most that join them, and a not for each three bytes of the tape.
         private static final int MOST_STEPS = 2 * MOST_TERMS + Tape.MOST_BYTES / 3;
         // An 'or' and an 'and' may wait at each of six depths, and a comparison and a sum behind them.
@@ -446,7 +448,7 @@ public final class PlyHouse {
             }
         }
 
-        private void copyOf(Grades other) {
+        private void copyFrom(Grades other) {
             lines = other.lines;
             codeLength = other.codeLength;
             for (int line = 0; line < MOST_LINES; line++) {
@@ -472,21 +474,21 @@ public final class PlyHouse {
         }
 
         /** Whether what a line asks for holds for a part of a leaf. */
-        private boolean holds(int line, Tally tally) {
+        private boolean holds(int line, Part part) {
             stacked = 0;
             int stop = Math.min(codeEndOf(line), code.length);
             int first = Math.max(0, codeEndOf(line - 1));
             for (int at = first; at < stop; at++) {
-                doStep(code[at], tally);
+                doStep(code[at], part);
             }
             return first >= stop || pop() != 0;
         }
 
-        private void doStep(int step, Tally tally) {
+        private void doStep(int step, Part part) {
             if (step >= 0) {
                 push(step);
             } else if (step >= RUN) {
-                push(tally.countOf(step));
+                push(part.countOf(step));
             } else if (step == NOT) {
                 push(pop() == 0 ? 1 : 0);
             } else {
@@ -559,15 +561,6 @@ public final class PlyHouse {
                 places[count] = place;
                 count++;
             }
-        }
-
-        /** The token with a number; behind the last one always the end. */
-        private int tokenAt(int number) {
-            return number >= 0 && number < count && number < kinds.length ? kinds[number] : END;
-        }
-
-        private int placeOf(int number) {
-            return number >= 0 && number < count && number < places.length ? places[number] : 0;
         }
 
         private static int endAt(Tape tape, int from) {
@@ -687,7 +680,6 @@ public final class PlyHouse {
         private final Tokens tokens;
         private final Grades draft;
         private int fault;
-        private int faultPlace;
         private int number;
         private int token;
         private int terms;
@@ -696,17 +688,15 @@ public final class PlyHouse {
             tokens = new Tokens();
             draft = new Grades();
             fault = NO_FAULT;
-            faultPlace = NONE;
         }
 
         private boolean readLines(Tape tape) {
             tokens.split(tape);
             draft.clear();
             fault = NO_FAULT;
-            faultPlace = NONE;
             terms = 0;
-            number = 0;
-            token = tokens.tokenAt(0);
+            number = -1;
+            advance();
             for (int line = 0; line < Grades.MOST_LINES && token != END; line++) {
                 if (!readLine()) {
                     return false;
@@ -720,11 +710,11 @@ public final class PlyHouse {
                 return false;
             }
             int width = token;
-            if (!readNumber(1, 100) || !readToken(WORTH)) {
+            if (!readNumber(1, Grades.WIDEST) || !readToken(WORTH)) {
                 return false;
             }
             int value = token;
-            if (!readNumber(1, 9999)) {
+            if (!readNumber(1, Grades.MOST_WORTH)) {
                 return false;
             }
             if (token == WHEN) {
@@ -787,10 +777,6 @@ public final class PlyHouse {
                 advance();
                 return readEither(depth + 1) && readToken(CLOSE);
             }
-            return readComparison();
-        }
-
-        private boolean readComparison() {
             if (!readSum()) {
                 return false;
             }
@@ -841,7 +827,6 @@ public final class PlyHouse {
             }
             if (!within(token, low, high)) {
                 fault = BAD_NUMBER;
-                faultPlace = tokens.placeOf(number);
                 return false;
             }
             advance();
@@ -851,46 +836,19 @@ public final class PlyHouse {
         /** The token can't stand where it does; answers false, so that a reader can end with it. */
         private boolean refuse() {
             fault = token == BROKEN ? NO_TOKEN : OUT_OF_PLACE;
-            faultPlace = tokens.placeOf(number);
             return false;
         }
 
         private void advance() {
             number++;
-            token = tokens.tokenAt(number);
-        }
-    }
-
-    /** What a part of the leaf has: what the terms of a grade ask for. */
-    private static final class Tally {
-        private int knots;
-        private int splits;
-        private int holes;
-        private int plugs;
-        private int run;
-
-        private Tally() {
-            knots = 0;
-            splits = 0;
-            holes = 0;
-            plugs = 0;
-            run = 0;
+            boolean there = number >= 0 && number < tokens.count && number < tokens.kinds.length;
+            token = there ? tokens.kinds[number] : END;
         }
 
-        private void patchHoles(int patched) {
-            holes -= patched;
-            plugs += patched;
-        }
-
-        private int countOf(int term) {
-            switch (term) {
-                case KNOTS: return knots;
-                case SPLITS: return splits;
-                case HOLES: return holes;
-                case PLUGS: return plugs;
-                case RUN: return run;
-                default: return 0;
-            }
+        /** The place of the token at which the reading ended. */
+        private int placeReached() {
+            boolean there = number >= 0 && number < tokens.count && number < tokens.places.length;
+            return there ? tokens.places[number] : NONE;
         }
     }
 
@@ -902,7 +860,8 @@ public final class PlyHouse {
         private final int[] splitsBefore;
         private final int[] holesBefore;
         private final int[] plugsBefore;
-        private final int[] clearUpTo;
+        // How many marks right before a place are clear, one behind the other.
+        private final int[] clearBefore;
         private int count;
 
         private Leaf() {
@@ -910,7 +869,7 @@ public final class PlyHouse {
             splitsBefore = new int[MOST_MARKS + 1];
             holesBefore = new int[MOST_MARKS + 1];
             plugsBefore = new int[MOST_MARKS + 1];
-            clearUpTo = new int[MOST_MARKS + 1];
+            clearBefore = new int[MOST_MARKS + 1];
             count = 0;
         }
 
@@ -936,41 +895,68 @@ public final class PlyHouse {
                 splitsBefore[at + 1] = splitsBefore[at] + (mark == 's' ? 1 : 0);
                 holesBefore[at + 1] = holesBefore[at] + (mark == 'o' ? 1 : 0);
                 plugsBefore[at + 1] = plugsBefore[at] + (mark == 'p' ? 1 : 0);
-            }
-            clearUpTo[count] = count;
-            for (int at = count - 1; at >= 0; at--) {
-                clearUpTo[at] = tape.byteAt(at) == '.' ? clearUpTo[at + 1] : at;
+                clearBefore[at + 1] = mark == '.' ? clearBefore[at] + 1 : 0;
             }
         }
 
-        private boolean hasPart(int from, int behind) {
-            return from >= 0 && from <= behind && behind <= count && behind <= MOST_MARKS;
-        }
-
-        private int holesIn(int from, int behind) {
-            return hasPart(from, behind) ? holesBefore[behind] - holesBefore[from] : 0;
-        }
-
-        private void tellInto(Tally tally, int from, int behind) {
-            if (!hasPart(from, behind)) {
-                return;
-            }
-            tally.knots = knotsBefore[behind] - knotsBefore[from];
-            tally.splits = splitsBefore[behind] - splitsBefore[from];
-            tally.holes = holesBefore[behind] - holesBefore[from];
-            tally.plugs = plugsBefore[behind] - plugsBefore[from];
-            tally.run = longestRun(from, behind);
-        }
-
-        private int longestRun(int from, int behind) {
+        /** Writes, for each length of a part that begins at a mark, its longest run. */
+        private void listRuns(int from, int[] runs) {
             int longest = 0;
-            int at = from;
-            while (at >= 0 && at < behind && at < clearUpTo.length) {
-                int stop = Math.max(at, Math.min(clearUpTo[at], behind));
-                longest = Math.max(longest, stop - at);
-                at = stop + 1;
+            for (int length = 1; from >= 0 && from + length <= count && length < runs.length; length++) {
+                longest = Math.max(longest, Math.min(length, clearBefore[from + length]));
+                runs[length] = longest;
             }
-            return longest;
+        }
+
+        private static int between(int[] before, int from, int behind) {
+            if (from < 0 || from > behind || behind >= before.length) {
+                return 0;
+            }
+            return before[behind] - before[from];
+        }
+    }
+
+    /** A part of the leaf, and what the terms of a grade find in it. */
+    private static final class Part {
+        private final Leaf marks;
+        // By how many marks the part has from where it begins: its longest run.
+        private final int[] runs;
+        private int from;
+        private int knots;
+        private int splits;
+        private int holes;
+        private int plugs;
+        private int run;
+        private int patched;
+
+        private Part(Leaf marks) {
+            this.marks = marks;
+            runs = new int[Grades.WIDEST + 1];
+        }
+
+        private void beginAt(int mark) {
+            from = mark;
+            marks.listRuns(mark, runs);
+        }
+
+        private void endBefore(int behind) {
+            knots = Leaf.between(marks.knotsBefore, from, behind);
+            splits = Leaf.between(marks.splitsBefore, from, behind);
+            holes = Leaf.between(marks.holesBefore, from, behind);
+            plugs = Leaf.between(marks.plugsBefore, from, behind);
+            int length = behind - from;
+            run = length >= 0 && length < runs.length ? runs[length] : 0;
+        }
+
+        private int countOf(int term) {
+            switch (term) {
+                case KNOTS: return knots;
+                case SPLITS: return splits;
+                case HOLES: return holes - patched;
+                case PLUGS: return plugs + patched;
+                case RUN: return run;
+                default: return 0;
+            }
         }
     }
 
@@ -978,7 +964,7 @@ public final class PlyHouse {
     private static final class Clipping {
         private final Grades grading;
         private final Leaf marks;
-        private final Tally tally;
+        private final Part part;
         // For each mark: what the leaf from there on is worth at most, in how many sheets,
         // and the grade of the sheet that begins there (NONE: none does).
         private final int[] worthFrom;
@@ -994,7 +980,7 @@ public final class PlyHouse {
         private Clipping(Grades grading, Leaf marks) {
             this.grading = grading;
             this.marks = marks;
-            tally = new Tally();
+            part = new Part(marks);
             worthFrom = new int[Leaf.MOST_MARKS + 1];
             sheetsFrom = new int[Leaf.MOST_MARKS + 1];
             gradeAt = new int[Leaf.MOST_MARKS + 1];
@@ -1017,13 +1003,14 @@ public final class PlyHouse {
         }
 
         private boolean isSheet(int from, int line, int patched) {
-            int behind = from + grading.widthOf(line);
-            if (patched > patches || patched > marks.holesIn(from, behind)) {
-                return false;
-            }
-            marks.tellInto(tally, from, behind);
-            tally.patchHoles(patched);
-            return grading.holds(line, tally);
+            part.beginAt(from);
+            part.endBefore(from + grading.widthOf(line));
+            return partIsSheet(line, patched);
+        }
+
+        private boolean partIsSheet(int line, int patched) {
+            part.patched = patched;
+            return patched <= patches && patched <= part.holes && grading.holds(line, part);
         }
 
         private void find() {
@@ -1039,6 +1026,7 @@ public final class PlyHouse {
                 sheetsFrom[at] = sheetsFrom[at + 1];
                 gradeAt[at] = NONE;
                 patchedAt[at] = 0;
+                part.beginAt(at);
                 for (int line = 0; line < grading.lines; line++) {
                     trySheets(at, line);
                 }
@@ -1049,23 +1037,21 @@ public final class PlyHouse {
         // More holes patched are never worth more, so the first that makes a sheet is the one for this grade.
         private void trySheets(int at, int line) {
             int behind = at + grading.widthOf(line);
-            if (behind <= at || behind > marks.count || behind >= worthFrom.length) {
+            if (at < 0 || behind <= at || behind > marks.count || behind >= worthFrom.length) {
                 return;
             }
-            int most = Math.min(patches, marks.holesIn(at, behind));
+            part.endBefore(behind);
+            int total = grading.worthOf(line) + worthFrom[behind];
             int parts = 1 + sheetsFrom[behind];
-            for (int patched = 0; patched <= most; patched++) {
-                int total = grading.worthOf(line) - patched * cost + worthFrom[behind];
-                if (!isBetter(at, total, parts)) {
-                    return;
-                }
-                if (isSheet(at, line, patched)) {
+            for (int patched = 0; patched <= patches && isBetter(at, total, parts); patched++) {
+                if (partIsSheet(line, patched)) {
                     worthFrom[at] = total;
                     sheetsFrom[at] = parts;
                     gradeAt[at] = line;
                     patchedAt[at] = patched;
                     return;
                 }
+                total -= cost;
             }
         }
 
@@ -1085,14 +1071,14 @@ public final class PlyHouse {
 
         private void listSheets(int count) {
             found = 0;
-            int at = 0;
+            int behind = 0;
             for (int mark = 0; mark < count; mark++) {
-                if (mark < at || gradeAt[mark] == NONE || found >= begins.length) {
+                if (mark < behind || gradeAt[mark] == NONE || found >= begins.length) {
                     continue;
                 }
                 begins[found] = mark;
                 found++;
-                at = mark + grading.widthOf(gradeAt[mark]);
+                behind = mark + grading.widthOf(gradeAt[mark]);
             }
         }
 

@@ -101,6 +101,9 @@ public final class ClipTest {
         condition("2>1", ".", true);
         condition("knots+splits>holes+plugs", "kso", true);
         condition("0100=100", ".", true);
+        String nots = "not not not not not ";
+        condition((nots + "1=1 or ").repeat(19) + nots + "1=2", ".", true);
+        condition((nots + "1=1 or ").repeat(19) + nots + "1=1", ".", false);
     }
 
     private static void clips(PlyHouse house, int worth, int[][] sheets) {
@@ -153,6 +156,10 @@ public final class ClipTest {
         CHECK.due("beyond", house.clipped(300, 0), -1);
         Check.leaf(house, "..");
         CHECK.due("a lesser one then", house.worth(), 2 * 9999);
+        house = house("grade 100 worth 3 when run=100;grade 100 worth 2;", ".".repeat(150) + "k" + ".".repeat(149));
+        clips(house, 8, new int[][] {{0, 0, 0}, {100, 1, 0}, {200, 0, 0}});
+        Check.leaf(house, ".".repeat(300));
+        clips(house, 9, new int[][] {{0, 0, 0}, {100, 0, 0}, {200, 0, 0}});
     }
 
     /** A way to clip: its sheets, each {begin, grade, patched}. */

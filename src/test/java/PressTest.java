@@ -8,6 +8,8 @@ public final class PressTest {
 
     public static void main(String[] args) {
         firstPress();
+        firstSettings();
+        dropped();
         wrongInputs();
         edgesOfLife();
         loadsThatTakeNoTime();
@@ -35,6 +37,38 @@ public final class PressTest {
         CHECK.due("load 1", house.load(1, 0), -1);
         CHECK.due("load least", house.load(Integer.MIN_VALUE, 0), -1);
         CHECK.due("load greatest", house.load(Integer.MAX_VALUE, 0), -1);
+    }
+
+    /** One opening, 10 and 1 minutes, and a life of 60. */
+    private static void firstSettings() {
+        PlyHouse house = new PlyHouse();
+        house.glue(50, 0);
+        house.glue(50, 0);
+        CHECK.due("the second one just alive", house.plan(0), 2);
+        CHECK.due("one opening", house.plan(3), 2);
+        CHECK.due("out", house.plan(2), 120);
+        house = new PlyHouse();
+        house.glue(51, 0);
+        house.glue(51, 0);
+        CHECK.due("the second one dies", house.plan(0), 1);
+        CHECK.due("the first is told", house.plan(1), 1);
+    }
+
+    private static void dropped() {
+        PlyHouse house = new PlyHouse();
+        for (int number = 0; number < 4; number++) {
+            house.glue(5, 10 * number);
+        }
+        CHECK.due("four", house.plan(1), 15);
+        house.drop();
+        CHECK.due("three", house.plan(1), 7);
+        CHECK.due("out of three", house.plan(2), 45);
+        CHECK.due("the number again", house.glue(500, 1), 3);
+        CHECK.due("the new one is last", house.plan(2), 45 + 510);
+        house.drop();
+        house.drop();
+        CHECK.due("two", house.plan(1), 3);
+        CHECK.due("loads of two", house.load(2, 0), -1);
     }
 
     private static void wrongInputs() {
