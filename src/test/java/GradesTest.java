@@ -18,21 +18,11 @@ public final class GradesTest {
     }
 
     private static void good(String text, int lines) {
-        PlyHouse house = new PlyHouse();
-        CHECK.due("grades of " + text, Check.grades(house, text), lines);
-        CHECK.due("fault of " + text, house.fault(0), 0);
-        CHECK.due("place of " + text, house.fault(1), -1);
-        CHECK.due("lines of " + text, house.about(0), lines);
-        CHECK.due("tape behind " + text, house.about(3), 0);
+        CHECK.goodGrades(text, lines);
     }
 
     private static void bad(String text, int fault, int place) {
-        PlyHouse house = new PlyHouse();
-        CHECK.due("grades of " + text, Check.grades(house, text), -1);
-        CHECK.due("fault of " + text, house.fault(0), fault);
-        CHECK.due("place of " + text, house.fault(1), place);
-        CHECK.due("lines of " + text, house.about(0), 0);
-        CHECK.due("tape behind " + text, house.about(3), 0);
+        CHECK.badGrades(text, fault, place);
     }
 
     private static void goodTexts() {
@@ -178,7 +168,8 @@ public final class GradesTest {
     private static void againstModel() {
         Random random = new Random(5);
         String[] words = {"grade", "worth", "when", "or", "and", "not", "knots", "splits", "holes", "plugs", "run", ";",
-            "(", ")", "<", ">", "=", "+", "-", "1", "0", "100", "101", "9999", "10000", "knot", "gradegrade", "$", "2x"};
+            "(", ")", "<", ">", "=", "+", "-", "1", "0", "100", "101", "9999", "10000", "knot", "gradegrade", "$",
+            "2x"};
         for (int run = 0; run < 60000; run++) {
             String text = GradeText.random(random, 1 + random.nextInt(3), random.nextInt(7));
             int changes = random.nextInt(4);
