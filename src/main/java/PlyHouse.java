@@ -188,7 +188,7 @@ public final class PlyHouse {
         if (!within(kind, 0, Veneers.KINDS - 1) || !within(thick, 1, 90)) {
             return false;
         }
-        if (!within(off, 0, Math.min(20, thick)) || !within(price, 0, 1000)) {
+        if (!within(off, 0, Math.min(20, thick)) || !within(price, 0, Veneers.MOST_PRICE)) {
             return false;
         }
         veneers.set(kind, thick, off, price, fair);
@@ -1107,6 +1107,7 @@ public final class PlyHouse {
     private static final class Veneers {
         private static final int KINDS = 6;
         private static final int MOST_LAYERS = 9;
+        private static final int MOST_PRICE = 1000;
 
         private final int[] thicks;
         private final int[] offs;
@@ -1199,7 +1200,7 @@ public final class PlyHouse {
             layers = n;
             low = lowest;
             high = highest;
-            leastPrice = Integer.MAX_VALUE;
+            leastPrice = MOST_LAYERS * MOST_PRICE + 1;
             cheapestKinds = NONE;
             lay(0, 0, 0, 0, 0);
             return cheapestKinds;

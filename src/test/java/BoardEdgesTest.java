@@ -325,6 +325,9 @@ public final class BoardEdgesTest {
         CHECK.due("the next ones", house.best(9, 0, 97), 0122222221);
         CHECK.due("none of them", house.best(9, 0, 90), 0111111111);
         CHECK.due("all together, not each", house.best(3, 31, 31), 0121);
+        for (int n = 1; n <= 9; n += 2) {
+            CHECK.due("the dearest", houseOf(new int[] {10, 0, 1000, 1}).best(n, 10 * n, 10 * n), 0);
+        }
         PlyHouse free = houseOf(new int[] {10, 0, 1, 1}, new int[] {10, 0, 0, 1});
         CHECK.due("for nothing", free.best(9, 0, 90), 0111111111);
     }

@@ -173,15 +173,13 @@ public final class ClipEdgesTest {
     }
 
     private static void joinedByTheirRank() {
-        String yes = "1=1";
-        String no = "1=2";
         for (int bits = 0; bits < 8; bits++) {
-            String a = (bits & 1) != 0 ? yes : no;
-            String b = (bits & 2) != 0 ? yes : no;
-            String c = (bits & 4) != 0 ? yes : no;
             boolean x = (bits & 1) != 0;
             boolean y = (bits & 2) != 0;
             boolean z = (bits & 4) != 0;
+            String a = x ? "1<2" : "2<1";
+            String b = y ? "2=2" : "2=1";
+            String c = z ? "2>1" : "1>2";
             holds(a + " or " + b + " and " + c, ".", x || y && z);
             holds(a + " and " + b + " or " + c, ".", x && y || z);
             holds("(" + a + " or " + b + ") and " + c, ".", (x || y) && z);

@@ -10,6 +10,7 @@ public final class GradeEdgesTest {
         sixHundredBytes();
         noLines();
         wordsOfEightLetters();
+        wordsByEveryLetter();
         numbersOfFourDigits();
         everyByte();
         blanksPartOrNot();
@@ -93,6 +94,25 @@ public final class GradeEdgesTest {
         badWhen("knots=plugplugs", 1, 6);
         bad(" ".repeat(591) + "abcdefghi", 1, 591);
         bad("a".repeat(600), 1, 0);
+    }
+
+    // Another word than those of the grammar, by any one letter, can't stand where they do.
+    private static void wordsByEveryLetter() {
+        String whole = HEAD + "not knots=1 and splits=1 or holes=1 and plugs=run;";
+        good(whole, 1);
+        for (int at = 0; at < whole.length(); at++) {
+            if (!Character.isLetter(whole.charAt(at))) {
+                continue;
+            }
+            int first = at;
+            while (first > 0 && Character.isLetter(whole.charAt(first - 1))) {
+                first--;
+            }
+            String before = whole.substring(0, at);
+            bad(before + "x" + whole.substring(at + 1), 2, first);
+            bad(before + whole.charAt(at) + whole.substring(at), 2, first);
+            bad(before + whole.substring(at + 1), 2, first);
+        }
     }
 
     // "N (1 to 4 digits)"
