@@ -28,6 +28,7 @@ public final class GradeEdgesTest {
         firstByItsPlace();
         leastAtOnePlace();
         atTheEnd();
+        cutBytesAreNoText();
         everyPlaceOfTheGrammar();
         gradesThatThereAreStay();
         gradesManyTimes();
@@ -370,6 +371,36 @@ public final class GradeEdgesTest {
         }
         good(whole, 1);
         bad(whole + "grade 1 worth 1", 2, whole.length() + 15);
+    }
+
+    // "The TAPE has its first n bytes": those that end() cut off, or that an earlier text left, make no TOKEN longer.
+    private static void cutBytesAreNoText() {
+        String[] behind = {"x", "worth", "7", "12345", "$", ";"};
+        for (String cut : behind) {
+            cutGrades("grade 5", cut, -1, 2, 7);
+            cutGrades("grade", cut, -1, 2, 5);
+            cutGrades("grade 1 worth 1234", cut, -1, 2, 18);
+            cutGrades(HEAD + "1=1", cut, -1, 2, BODY + 3);
+            cutGrades(HEAD + "run=run", cut, -1, 2, BODY + 7);
+            cutGrades(LINE, cut, 1, 0, -1);
+            cutGrades("", cut, 0, 0, -1);
+        }
+        PlyHouse house = new PlyHouse();
+        Check.tape(house, "x".repeat(600));
+        house.grades();
+        Check.tape(house, " ".repeat(13) + "grade 5");
+        CHECK.due("a text that fills its last feed", house.grades(), -1);
+        CHECK.due("the end is at fault", house.fault(0), 2);
+        CHECK.due("the end of twenty bytes", house.fault(1), 20);
+    }
+
+    private static void cutGrades(String text, String cut, int lines, int fault, int place) {
+        PlyHouse house = new PlyHouse();
+        Check.tape(house, text + cut);
+        CHECK.due("cut off: " + text + "|" + cut, house.end(text.length()), text.length());
+        CHECK.due("grades of " + text + "|" + cut, house.grades(), lines);
+        CHECK.due("fault of " + text + "|" + cut, house.fault(0), fault);
+        CHECK.due("place of " + text + "|" + cut, house.fault(1), place);
     }
 
     // Each kind of TOKEN at each place at which another must stand.

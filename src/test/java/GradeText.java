@@ -35,7 +35,7 @@ final class GradeText {
                 return new int[] {1, at};
             }
             String token = matcher.group();
-            boolean letter = matcher.end() < text.length() && Character.isLowerCase(text.charAt(matcher.end()));
+            boolean letter = matcher.end() < text.length() && isLetter(text.charAt(matcher.end()));
             if (matcher.group(1) != null && token.length() > 8
                 || matcher.group(2) != null && (token.length() > 4 || letter)) {
                 return new int[] {1, at};
@@ -47,6 +47,10 @@ final class GradeText {
             at = matcher.end();
         }
         return model.state == State.LINE ? new int[] {0, model.lines} : new int[] {2, text.length()};
+    }
+
+    private static boolean isLetter(char sign) {
+        return sign >= 'a' && sign <= 'z';
     }
 
     private int step(String token) {
